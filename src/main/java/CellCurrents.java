@@ -185,10 +185,7 @@ public final class CellCurrents {
     }
 
     public boolean equal(int nest2) {
-        if (nest2 < 0 || nest2 >= nestCount || nest2 >= nests.length) {
-            return false;
-        }
-        return nests[nest2].agrees();
+        return nest2 >= 0 && nest2 < nests.length && nests[nest2].agrees();
     }
 
     public int fit(int waves) {
@@ -233,7 +230,7 @@ public final class CellCurrents {
     }
 
     public boolean back(int saved) {
-        if (saved < 0 || saved >= stateCount || saved >= states.length) {
+        if (saved < 0 || saved >= states.length) {
             return false;
         }
         State state = states[saved];
@@ -542,11 +539,13 @@ public final class CellCurrents {
             open = true;
         }
 
-        /** A wave that was not told has the size 0 and so adds nothing. */
+        /** A wave that was not told has the size 0, and one of the size 0 adds nothing. */
         void stand(double t) {
             surface = 0.0;
-            for (int wave = 0; wave < sizes.length && wave < phases.length; wave++) {
-                surface = surface + sizes[wave] * saw(t / (3600 * (wave + 1)) + phases[wave]);
+            for (int wave = 0; open && wave < sizes.length && wave < phases.length; wave++) {
+                if (sizes[wave] > 0.0) {
+                    surface = surface + sizes[wave] * saw(t / (3600 * (wave + 1)) + phases[wave]);
+                }
             }
         }
     }
@@ -647,7 +646,7 @@ public final class CellCurrents {
         }
     }
 
-    /** The beds of one cell; empty (without a home) before and after. */
+    /** The beds of one cell; empty (without a home) before it, and for good after it. */
     private static final class Nest {
         final long[] shares = new long[MOST_BEDS];
         Cell home;
@@ -657,9 +656,6 @@ public final class CellCurrents {
             home = cell;
             count = n;
             cell.beds = this;
-            for (int k = 0; k < shares.length; k++) {
-                shares[k] = 0;
-            }
             grow(cell.parts);
         }
 
@@ -703,7 +699,8 @@ public final class CellCurrents {
         final long[] cameIn = new long[SIDES];
         double time;
         long fromRivers;
-        int changes;
+        // A sea never counts so many changes: what was not kept does not come back.
+        int changes = NONE;
 
         State(int cellCount, int faceCount) {
             parts = new long[cellCount];

@@ -14,6 +14,7 @@ public final class NestTests {
         backGivesWhatSidesBrought();
         backGoesEitherWay();
         backRefusesWhatIsNot();
+        backRefusesOfANewObject();
         backRefusesAfterADepth();
         backRefusesAfterANest();
         backLeavesWhatStepsDoNotChange();
@@ -65,8 +66,8 @@ public final class NestTests {
         Check.no("16 none yet", sea.equal(0));
         Check.same("15 the first all the same", sea.nest(0, 0, 3), 0);
         Check.same("15 has beds", sea.nest(0, 0, 3), NONE);
-        sea.depth(0, 0, 6.0);
-        Check.no("16 empty", sea.equal(0));
+        sea.depth(0, 0, 5.0);
+        Check.no("16 empty, though the volume is the same", sea.equal(0));
         Check.same("15 a new nest", sea.nest(0, 0, 3), 1);
         Check.yes("16 the new one", sea.equal(1));
         Check.no("16 the old one stays empty", sea.equal(0));
@@ -203,6 +204,14 @@ public final class NestTests {
             Check.no("21 saved " + none, sea.back(none));
         }
         Check.yes("21 nothing changed", picture(sea).equals(now));
+    }
+
+    private static void backRefusesOfANewObject() {
+        CellCurrents sea = new CellCurrents(2, 2, 1);
+        Check.no("21 none yet", sea.back(0));
+        Check.same("20 save", sea.save(), 0);
+        Check.no("21 none but 0", sea.back(1));
+        Check.yes("21 nothing, and back", sea.back(0));
     }
 
     private static void backRefusesAfterADepth() {

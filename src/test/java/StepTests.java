@@ -15,6 +15,8 @@ public final class StepTests {
         theOutsideGivesAllThatIsAsked();
         aFlowBeyondAllLongsIsAnEighthToo();
         landHasNoFaces();
+        newLandTakesNothingMore();
+        facesJoinNeighbours();
         allIsTakenFromTheBeginning();
         warmthAndSaltGoWithTheParts();
         facesAndRiversMixInTheirOrder();
@@ -152,6 +154,10 @@ public final class StepTests {
         sea.wind(0, 100.0, 0.0);
         sea.run(1, 50.0);
         Check.same("6 cut", sea.level(1, 0), levelOf(1002, 1.0));
+        CellCurrents slow = row(1.0, 1.0);
+        slow.wind(0, 48.0, 0.0);
+        slow.run(1, 50.0);
+        Check.same("6 one part", slow.level(1, 0), levelOf(1001, 1.0));
         CellCurrents other = row(1.0, 1.0);
         other.wind(0, -100.0, 0.0);
         other.run(1, 50.0);
@@ -248,6 +254,52 @@ public final class StepTests {
         Check.same("6 side of land is no face", sea.volume(0), 20000);
     }
 
+    private static void newLandTakesNothingMore() {
+        CellCurrents sea = heap(1000);
+        sea.run(1, 60.0);
+        sea.depth(1, 0, 0.0);
+        long left = sea.volume(0);
+        sea.run(2, 60.0);
+        Check.same("6 nothing flows to new land", sea.volume(0), left);
+        Check.same("6 its level stays", sea.level(0, 0), levelOf(left, 10.0));
+    }
+
+    /** Five by four cells, each with a level of its own, and a face to each neighbour. */
+    private static void facesJoinNeighbours() {
+        CellCurrents sea = new CellCurrents(5, 4, 1);
+        double[][] level = new double[6][5];
+        for (int side = 0; side < 4; side++) {
+            sea.border(side, 0, 2.0, 0.25);
+        }
+        long[] over = new long[4];
+        for (int i = 0; i < 5; i++) {
+            for (int j = 0; j < 4; j++) {
+                double depth = 10.0 + i + 7 * j + 0.0009 * (i * i + 3 * j);
+                sea.depth(i, j, depth);
+                level[i][j] = levelOf((long) (depth * 1000), depth);
+                long q = (long) (nextSpeed(0.0, 600.0, 0.0 - level[i][j], 0.0) * 600.0
+                    * ((long) (depth * 1000) * 0.001));
+                over[0] += i == 0 ? q : 0;
+                over[1] += i == 4 ? q : 0;
+                over[2] += j == 0 ? q : 0;
+                over[3] += j == 3 ? q : 0;
+            }
+        }
+        sea.run(1, 600.0);
+        for (int i = 0; i < 5; i++) {
+            for (int j = 0; j < 4; j++) {
+                Check.same("8 axis 0 from " + i + ", " + j, sea.speed(i, j, 0, 0),
+                    nextSpeed(0.0, 600.0, level[i][j] - (i == 4 ? 0.0 : level[i + 1][j]), 0.0));
+                Check.same("8 axis 1 from " + i + ", " + j, sea.speed(i, j, 0, 1),
+                    nextSpeed(0.0, 600.0, level[i][j] - (j == 3 ? 0.0 : level[i][j + 1]), 0.0));
+            }
+        }
+        for (int side = 0; side < 4; side++) {
+            Check.yes("10 something over side " + side, over[side] != 0);
+            Check.same("10 over side " + side, throughAll(sea, side), over[side]);
+        }
+    }
+
     private static void allIsTakenFromTheBeginning() {
         CellCurrents sea = row(10.0, 10.0, 10.0);
         sea.wind(0, 50.0, 0.0);
@@ -311,6 +363,10 @@ public final class StepTests {
         Check.same("12 no volume", sea.volume(0), 0);
         Check.same("12 warmth of none", sea.warm(0, 0, 0), 10.0);
         Check.same("13 salt of none", sea.salt(0, 0, 0), 35.0);
+        sea.river(0, 0, 1.0);
+        sea.run(1, 1.0);
+        Check.same("12 warmth of one part", sea.warm(0, 0, 0), 12.0);
+        Check.same("13 salt of one part", sea.salt(0, 0, 0), 0.0);
     }
 
     private static void mudGrowsAboveItsSpeed() {
@@ -330,6 +386,12 @@ public final class StepTests {
         Check.yes("23 still fast", after < -0.2);
         Check.same("23 grows", sea.mud(0, 0), first + 0.001 * 60.0 * (-after - 0.2));
         Check.same("23 cell without faces", sea.mud(4, 0), 0.0);
+        CellCurrents slow = row(10.0, 10.0);
+        slow.wind(0, 100.0, 0.0);
+        slow.run(1, 200.5);
+        double least = nextSpeed(0.0, 200.5, 0.0, 100.0);
+        Check.yes("23 little more than 0.2", least > 0.2 && least < 0.201);
+        Check.same("23 little mud", slow.mud(0, 0), 0.001 * 200.5 * (least - 0.2));
     }
 
     private static void mudTakesTheGreatestSpeed() {

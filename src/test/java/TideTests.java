@@ -10,6 +10,7 @@ public final class TideTests {
         oneWave();
         twoWaves();
         columnsWithoutPivot();
+        pivotsAreAboveTheirLeast();
         fitRefuses();
         tideIsOfTheLatestFit();
         tideRefuses();
@@ -99,6 +100,17 @@ public final class TideTests {
         Check.same("19 at the first", sea.tide(2.0), 4.0);
         Check.same("19 at the second", sea.tide(2.5), 2.0);
         Check.same("19 where the second saw is not", sea.tide(2.25), 3.0);
+    }
+
+    /** Two levels so near each other in time that the second pivot is 8 times the square of it. */
+    private static void pivotsAreAboveTheirLeast() {
+        double[] apart = {1.0e-5, 1.3e-5};
+        for (int k = 0; k < 2; k++) {
+            CellCurrents sea = new CellCurrents(1, 1, 1);
+            sea.gauge(0, 0, 0.0, 1.0);
+            sea.gauge(0, 0, apart[k], 2.0);
+            Check.same("17 apart by " + apart[k], sea.fit(1), 1 + k);
+        }
     }
 
     private static void fitRefuses() {
