@@ -3,58 +3,210 @@ import java.util.List;
 
 /**
  * The document once more, as plainly as it can be written and held in another way than the class:
- * rows of numbers by i and j, and the faces looked for anew in each step. ModelTests sets both side
- * by side. It refuses nothing but what ModelTests asks for.
+ * rows of numbers by i and j, and the faces looked for anew in each step. It has the whole face, with
+ * all that is refused; ModelTests sets both side by side.
  */
 final class Model {
+    private static final double NOWHERE = -1.0e6;
+
     final int x;
     final int y;
     final int layers;
-    boolean[][] water;
-    double[][] depth;
-    long[][] volume;
-    double[][] warmth;
-    double[][] salt;
-    double[][] mud;
-    double[][] river;
-    int[][] nestOf;
-    double[][] gauge;
-    boolean[][] gauged;
+    private final boolean[][] water;
+    private final double[][] depth;
+    private long[][] volume;
+    private double[][] warmth;
+    private double[][] salt;
+    private double[][] mud;
+    private final double[][] river;
+    private final int[][] nestOf;
+    private final Double[][] gauge;
     /** Speeds by face: axis 0, axis 1 (of the cell before it), sides 0 to 3 (of their cell). */
-    double[][][] speed;
-    double[][] waveSize = new double[4][8];
-    double[][] wavePhase = new double[4][8];
-    boolean[][] waveTold = new boolean[4][8];
-    double[][] wind = new double[2][24];
-    long[] through = new long[4];
-    double t = 0.0;
-    List<long[]> nests = new ArrayList<>();
-    List<double[]> gauges = new ArrayList<>();
-    double[] numbers = null;
-    List<Object[]> saves = new ArrayList<>();
-    int generation = 0;
+    private final double[][][] speed;
+    private final double[][] waveSize = new double[4][8];
+    private final double[][] wavePhase = new double[4][8];
+    private final boolean[][] waveTold = new boolean[4][8];
+    private final double[][] wind = new double[2][24];
+    private long[] through = new long[4];
+    private double t = 0.0;
+    /** What there has to be: all that depth() told, less what it took, and what rivers brought. */
+    private long told = 0;
+    private long brought = 0;
+    private List<long[]> nests = new ArrayList<>();
+    private final List<double[]> gauges = new ArrayList<>();
+    private double[] numbers = null;
+    private final List<Object[]> saves = new ArrayList<>();
+    private final List<List<long[]>> keptNests = new ArrayList<>();
+    private int generation = 0;
 
     Model(int x, int y, int layers) {
-        this.x = x;
-        this.y = y;
-        this.layers = layers;
-        water = new boolean[x][y];
-        depth = new double[x][y];
-        volume = new long[x][y];
-        warmth = new double[x][y];
-        salt = new double[x][y];
-        mud = new double[x][y];
-        river = new double[x][y];
-        nestOf = new int[x][y];
-        gauge = new double[x][y];
-        gauged = new boolean[x][y];
-        speed = new double[6][x][y];
+        this.x = Math.min(12, Math.max(1, x));
+        this.y = Math.min(12, Math.max(1, y));
+        this.layers = Math.min(4, Math.max(1, layers));
+        water = new boolean[this.x][this.y];
+        depth = new double[this.x][this.y];
+        volume = new long[this.x][this.y];
+        warmth = new double[this.x][this.y];
+        salt = new double[this.x][this.y];
+        mud = new double[this.x][this.y];
+        river = new double[this.x][this.y];
+        nestOf = new int[this.x][this.y];
+        gauge = new Double[this.x][this.y];
+        speed = new double[6][this.x][this.y];
         for (int[] row : nestOf) {
             java.util.Arrays.fill(row, -1);
         }
     }
 
-    boolean open(int side) {
+    // ---- the face
+
+    boolean depth(int i, int j, double metres) {
+        if (!isCell(i, j) || !in(metres, 0, 1000)) {
+            return false;
+        }
+        told -= volume[i][j];
+        tellDepth(i, j, metres);
+        told += volume[i][j];
+        return true;
+    }
+
+    boolean border(int side, int wave, double size, double phase) {
+        if (!in(side, 0, 3) || !in(wave, 0, 7) || !in(size, 0, 20) || !in(phase, 0, 1)) {
+            return false;
+        }
+        waveTold[side][wave] = true;
+        waveSize[side][wave] = size;
+        wavePhase[side][wave] = phase;
+        return true;
+    }
+
+    boolean wind(int hour, double u, double v) {
+        if (!in(hour, 0, 23) || !in(u, -100, 100) || !in(v, -100, 100)) {
+            return false;
+        }
+        wind[0][hour] = u;
+        wind[1][hour] = v;
+        return true;
+    }
+
+    boolean river(int i, int j, double rate) {
+        if (!there(i, j) || !in(rate, 0, 1000)) {
+            return false;
+        }
+        river[i][j] = rate;
+        return true;
+    }
+
+    int run(int steps, double h) {
+        if (!in(steps, 0, 200) || !in(h, 1, 600)) {
+            return -1;
+        }
+        for (int n = 0; n < steps; n++) {
+            step(h);
+        }
+        return steps;
+    }
+
+    double level(int i, int j) {
+        return there(i, j) ? levelAt(i, j) : NOWHERE;
+    }
+
+    double speed(int i, int j, int layer, int axis) {
+        if (!there(i, j) || !in(layer, 0, layers - 1)) {
+            return 0.0;
+        }
+        for (int[] face : faces()) {
+            int[] a = beforeOf(face);
+            if (a != null && a[0] == i && a[1] == j && axisOf(face) == axis) {
+                return speed[face[0]][i][j] * (1 + 0.25 * (layers - 1 - 2 * layer));
+            }
+        }
+        return 0.0;
+    }
+
+    long volume(int limb) {
+        return limb(all(), limb);
+    }
+
+    long through(int side, int limb) {
+        return in(side, 0, 3) ? limb(through[side], limb) : -1;
+    }
+
+    boolean kept() {
+        return all() == told + brought + through[0] + through[1] + through[2] + through[3];
+    }
+
+    double warm(int i, int j, int layer) {
+        return there(i, j) && in(layer, 0, layers - 1) ? warmth[i][j] - 0.5 * layer : NOWHERE;
+    }
+
+    double salt(int i, int j, int layer) {
+        return there(i, j) && in(layer, 0, layers - 1) ? salt[i][j] + 0.1 * layer : NOWHERE;
+    }
+
+    boolean dry(int i, int j) {
+        return !there(i, j) || volume[i][j] < 50;
+    }
+
+    int nest(int i, int j, int n) {
+        return there(i, j) && in(n, 2, 8) ? part(i, j, n) : -1;
+    }
+
+    boolean equal(int nest) {
+        for (int i = 0; i < x; i++) {
+            for (int j = 0; j < y; j++) {
+                if (nestOf[i][j] == nest && nest >= 0) {
+                    return java.util.Arrays.stream(nests.get(nest)).sum() == volume[i][j];
+                }
+            }
+        }
+        return false;
+    }
+
+    boolean gauge(int i, int j, double hour, double v) {
+        if (!isCell(i, j) || gauges.size() == 40 || !in(hour, 0, 1000) || !in(v, -100, 100)) {
+            return false;
+        }
+        gauges.add(new double[] {hour, v});
+        gauge[i][j] = v;
+        return true;
+    }
+
+    double ice(int i, int j) {
+        return there(i, j) ? Math.min(1.0, Math.max(0.0, (271.5 - (273.15 + warmth[i][j])) * 0.5)) : 0.0;
+    }
+
+    double mud(int i, int j) {
+        return there(i, j) ? mud[i][j] : 0.0;
+    }
+
+    double differs(int i, int j) {
+        return there(i, j) && gauge[i][j] != null ? gauge[i][j] - levelAt(i, j) : 0.0;
+    }
+
+    // ---- how it comes to that
+
+    private static boolean in(double value, double least, double most) {
+        return value >= least && value <= most;
+    }
+
+    private static long limb(long sum, int limb) {
+        return limb == 0 ? sum & 0xFFFFFFFFL : limb == 1 ? sum >> 32 : -1;
+    }
+
+    private boolean isCell(int i, int j) {
+        return i >= 0 && i < x && j >= 0 && j < y;
+    }
+
+    private boolean there(int i, int j) {
+        return isCell(i, j) && water[i][j];
+    }
+
+    private double levelAt(int i, int j) {
+        return volume[i][j] * 0.001 - depth[i][j];
+    }
+
+    private boolean open(int side) {
         for (boolean told : waveTold[side]) {
             if (told) {
                 return true;
@@ -63,40 +215,24 @@ final class Model {
         return false;
     }
 
-    static double saw(double u) {
-        double f = u - Math.floor(u);
-        return f < 0.5 ? 1 - 4 * f : 4 * f - 3;
-    }
-
-    double outside(int side) {
+    private double outside(int side) {
         double level = 0.0;
         for (int wave = 0; wave < 8; wave++) {
             if (waveTold[side][wave]) {
                 level = level + waveSize[side][wave]
-                    * saw(t / (3600 * (wave + 1)) + wavePhase[side][wave]);
+                    * Lines.saw(t / (3600 * (wave + 1)) + wavePhase[side][wave]);
             }
         }
         return level;
     }
 
-    double level(int i, int j) {
-        return volume[i][j] * 0.001 - depth[i][j];
-    }
-
-    boolean there(int i, int j) {
-        return i >= 0 && i < x && j >= 0 && j < y && water[i][j];
-    }
-
-    void tellDepth(int i, int j, double metres) {
+    private void tellDepth(int i, int j, double metres) {
         water[i][j] = metres != 0.0;
         depth[i][j] = metres;
         volume[i][j] = (long) (metres * 1000);
         warmth[i][j] = 10.0;
         salt[i][j] = 35.0;
         mud[i][j] = 0.0;
-        if (nestOf[i][j] >= 0) {
-            nests.set(nestOf[i][j], null);
-        }
         nestOf[i][j] = -1;
         for (int k = 0; k < 6; k++) {
             speed[k][i][j] = 0.0;
@@ -110,7 +246,7 @@ final class Model {
         generation++;
     }
 
-    int part(int i, int j, int n) {
+    private int part(int i, int j, int n) {
         if (nestOf[i][j] >= 0 || nests.size() == 10) {
             return -1;
         }
@@ -171,15 +307,15 @@ final class Model {
         return face[0] == 0 || face[0] == 2 || face[0] == 3 ? 0 : 1;
     }
 
-    void step(double h) {
+    private void step(double h) {
         List<int[]> faces = faces();
         List<Long> flows = new ArrayList<>();
         double[][] fastest = new double[x][y];
         for (int[] face : faces) {
             int[] a = beforeOf(face);
             int[] b = behindOf(face);
-            double d = (a == null ? outside(face[0] - 2) : level(a[0], a[1]))
-                - (b == null ? outside(face[0] - 2) : level(b[0], b[1]));
+            double d = (a == null ? outside(face[0] - 2) : levelAt(a[0], a[1]))
+                - (b == null ? outside(face[0] - 2) : levelAt(b[0], b[1]));
             double w = wind[axisOf(face)][(int) ((long) (t / 3600) % 24)];
             double s = speed[face[0]][face[1]][face[2]];
             s = (s + h * (0.00981 * d + 0.00001 * w)) / (1 + 0.002 * h * Math.abs(s));
@@ -216,6 +352,13 @@ final class Model {
                 through[kind - 2] += kind % 2 == 0 ? flows.get(k) : -flows.get(k);
             }
         }
+        for (int i = 0; i < x; i++) {
+            for (int j = 0; j < y; j++) {
+                if (nestOf[i][j] >= 0) {
+                    grow(nests.get(nestOf[i][j]), nextVolume[i][j] - volume[i][j]);
+                }
+            }
+        }
         volume = nextVolume;
         warmth = nextWarmth;
         salt = nextSalt;
@@ -232,6 +375,13 @@ final class Model {
     private long[][] nextVolume;
     private double[][] nextWarmth;
     private double[][] nextSalt;
+
+    private static void grow(long[] beds, long parts) {
+        for (int k = 0; k < beds.length; k++) {
+            long over = Math.abs(parts) % beds.length;
+            beds[k] += parts / beds.length + (k < over ? Long.signum(parts) : 0);
+        }
+    }
 
     /** One cell after the step, from what all cells had at its beginning. */
     private void mixLater(int i, int j, double h, List<int[]> faces, List<Long> flows) {
@@ -259,6 +409,7 @@ final class Model {
         }
         long more = (long) (river[i][j] * h);
         v += more;
+        brought += more;
         heat = heat + more * 12.0;
         brine = brine + more * 0.0;
         if (v != 0) {
@@ -268,17 +419,7 @@ final class Model {
         nextVolume[i][j] = v;
     }
 
-    double speedBehind(int i, int j, int layer, int axis) {
-        for (int[] face : faces()) {
-            int[] a = beforeOf(face);
-            if (a != null && a[0] == i && a[1] == j && axisOf(face) == axis && layer < layers) {
-                return speed[face[0]][i][j] * (1 + 0.25 * (layers - 1 - 2 * layer));
-            }
-        }
-        return 0.0;
-    }
-
-    long all() {
+    private long all() {
         long sum = 0;
         for (long[] row : volume) {
             for (long v : row) {
@@ -289,13 +430,16 @@ final class Model {
     }
 
     int fit(int waves) {
+        if (!in(waves, 0, 2)) {
+            return -1;
+        }
         int n = 1 + 2 * waves;
         double[][] a = new double[n][n];
         double[] b = new double[n];
-        for (double[] told : gauges) {
-            double[] f = row(told[0], n);
+        for (double[] one : gauges) {
+            double[] f = row(one[0], n);
             for (int r = 0; r < n; r++) {
-                b[r] = b[r] + f[r] * told[1];
+                b[r] = b[r] + f[r] * one[1];
                 for (int c = 0; c < n; c++) {
                     a[r][c] = a[r][c] + f[r] * f[c];
                 }
@@ -333,14 +477,14 @@ final class Model {
         double at = hour * 3600;
         f[0] = 1.0;
         for (int wave = 0; 1 + 2 * wave < n; wave++) {
-            f[1 + 2 * wave] = saw(at / (3600 * (wave + 1)));
-            f[2 + 2 * wave] = saw(at / (3600 * (wave + 1)) + 0.25);
+            f[1 + 2 * wave] = Lines.saw(at / (3600 * (wave + 1)));
+            f[2 + 2 * wave] = Lines.saw(at / (3600 * (wave + 1)) + 0.25);
         }
         return f;
     }
 
     double tide(double hour) {
-        if (numbers == null) {
+        if (numbers == null || !in(hour, 0, 1000)) {
             return 0.0;
         }
         double[] f = row(hour, numbers.length);
@@ -360,12 +504,13 @@ final class Model {
             speeds[k] = copy(speed[k]);
         }
         saves.add(new Object[] {copy(volume), copy(warmth), copy(salt), copy(mud), speeds,
-            through.clone(), t, generation});
+            through.clone(), t, generation, brought});
+        keptNests.add(copy(nests));
         return saves.size() - 1;
     }
 
     boolean back(int saved) {
-        if (saved >= saves.size() || (Integer) saves.get(saved)[7] != generation) {
+        if (!in(saved, 0, saves.size() - 1) || (Integer) saves.get(saved)[7] != generation) {
             return false;
         }
         Object[] s = saves.get(saved);
@@ -378,7 +523,17 @@ final class Model {
         }
         through = ((long[]) s[5]).clone();
         t = (Double) s[6];
+        brought = (Long) s[8];
+        nests = copy(keptNests.get(saved));
         return true;
+    }
+
+    private static List<long[]> copy(List<long[]> rows) {
+        List<long[]> made = new ArrayList<>();
+        for (long[] row : rows) {
+            made.add(row.clone());
+        }
+        return made;
     }
 
     private static double[][] copy(double[][] rows) {

@@ -21,8 +21,8 @@ public final class NestTests {
         Check.end();
     }
 
-    private static CellCurrents sea(int x, int y) {
-        CellCurrents sea = new CellCurrents(x, y, 1);
+    private static Sea sea(int x, int y) {
+        Sea sea = new Sea(x, y, 1);
         for (int i = 0; i < x; i++) {
             for (int j = 0; j < y; j++) {
                 sea.depth(i, j, 5.0 + i + 0.3 * j);
@@ -32,8 +32,8 @@ public final class NestTests {
     }
 
     /** A sea of three by two in which all that can move does. */
-    private static CellCurrents moving() {
-        CellCurrents sea = sea(3, 2);
+    private static Sea moving() {
+        Sea sea = sea(3, 2);
         sea.border(0, 0, 2.0, 0.1);
         sea.border(3, 1, 1.0, 0.6);
         sea.wind(0, 40.0, -50.0);
@@ -43,7 +43,7 @@ public final class NestTests {
     }
 
     private static void nestsAreNumbered() {
-        CellCurrents sea = sea(3, 1);
+        Sea sea = sea(3, 1);
         Check.same("15 first", sea.nest(2, 0, 2), 0);
         Check.same("15 second", sea.nest(0, 0, 8), 1);
         Check.same("15 third", sea.nest(1, 0, 5), 2);
@@ -53,7 +53,7 @@ public final class NestTests {
     }
 
     private static void nestRefuses() {
-        CellCurrents sea = sea(3, 2);
+        Sea sea = sea(3, 2);
         sea.depth(1, 1, 0.0);
         for (int none : NO_PLACES) {
             Check.same("15 i " + none, sea.nest(none, 0, 2), NONE);
@@ -76,13 +76,13 @@ public final class NestTests {
     }
 
     private static void tenNestsAtMost() {
-        CellCurrents sea = sea(1, 1);
+        Sea sea = sea(1, 1);
         for (int k = 0; k < 10; k++) {
             Check.same("15 nest " + k, sea.nest(0, 0, 2 + k % 7), k);
             sea.depth(0, 0, 5.0);
         }
         Check.same("15 the eleventh", sea.nest(0, 0, 2), NONE);
-        CellCurrents other = sea(11, 1);
+        Sea other = sea(11, 1);
         for (int k = 0; k < 10; k++) {
             Check.same("15 nest " + k, other.nest(k, 0, 2), k);
         }
@@ -92,7 +92,7 @@ public final class NestTests {
 
     private static void bedsStayEqual() {
         for (int n = 2; n <= 8; n++) {
-            CellCurrents sea = moving();
+            Sea sea = moving();
             sea.nest(0, 0, n);
             sea.nest(2, 1, n);
             sea.nest(1, 0, 10 - n);
@@ -104,7 +104,7 @@ public final class NestTests {
     }
 
     private static void equalOfNone() {
-        CellCurrents sea = sea(2, 1);
+        Sea sea = sea(2, 1);
         sea.nest(0, 0, 2);
         Check.no("16 nest 1", sea.equal(1));
         Check.no("16 nest 10", sea.equal(10));
@@ -114,7 +114,7 @@ public final class NestTests {
     }
 
     private static void saveNumbersFour() {
-        CellCurrents sea = sea(2, 1);
+        Sea sea = sea(2, 1);
         for (int k = 0; k < 4; k++) {
             Check.same("20 save", sea.save(), k);
         }
@@ -123,28 +123,27 @@ public final class NestTests {
         Check.same("20 those that cannot come back count", sea.save(), NONE);
     }
 
-    /** All that can be read of a sea of three by two, as one text. */
-    private static String picture(CellCurrents sea) {
+    /** What can be read of a sea of three by two, as one text. */
+    private static String picture(Sea sea) {
         StringBuilder text = new StringBuilder();
         for (int i = 0; i < 3; i++) {
             for (int j = 0; j < 2; j++) {
                 text.append(sea.level(i, j)).append(' ').append(sea.warm(i, j, 0)).append(' ');
                 text.append(sea.salt(i, j, 0)).append(' ').append(sea.mud(i, j)).append(' ');
                 text.append(sea.speed(i, j, 0, 0)).append(' ').append(sea.speed(i, j, 0, 1)).append(' ');
-                text.append(sea.dry(i, j)).append(' ');
             }
         }
         for (int side = 0; side < 4; side++) {
             text.append(sea.through(side, 0)).append(' ').append(sea.through(side, 1)).append(' ');
         }
-        for (int nest = 0; nest < 10; nest++) {
+        for (int nest = 0; nest < 3; nest++) {
             text.append(sea.equal(nest)).append(' ');
         }
         return text.append(sea.volume(0)).append(' ').append(sea.kept()).toString();
     }
 
     private static void backGivesAll() {
-        CellCurrents sea = moving();
+        Sea sea = moving();
         sea.nest(0, 0, 3);
         sea.nest(2, 1, 7);
         sea.run(1, 90.0);
@@ -164,7 +163,7 @@ public final class NestTests {
     }
 
     private static void backGivesWhatSidesBrought() {
-        CellCurrents sea = moving();
+        Sea sea = moving();
         Check.same("20 save", sea.save(), 0);
         long over0 = sea.through(0, 0);
         long over3 = sea.through(3, 0);
@@ -177,7 +176,7 @@ public final class NestTests {
     }
 
     private static void backGoesEitherWay() {
-        CellCurrents sea = moving();
+        Sea sea = moving();
         String[] pictures = new String[4];
         for (int k = 0; k < 4; k++) {
             sea.run(4, 200.0);
@@ -193,7 +192,7 @@ public final class NestTests {
     }
 
     private static void backRefusesWhatIsNot() {
-        CellCurrents sea = moving();
+        Sea sea = moving();
         Check.no("21 none yet", sea.back(0));
         sea.save();
         sea.run(1, 60.0);
@@ -207,7 +206,7 @@ public final class NestTests {
     }
 
     private static void backRefusesOfANewObject() {
-        CellCurrents sea = new CellCurrents(2, 2, 1);
+        Sea sea = new Sea(2, 2, 1);
         Check.no("21 none yet", sea.back(0));
         Check.same("20 save", sea.save(), 0);
         Check.no("21 none but 0", sea.back(1));
@@ -215,7 +214,7 @@ public final class NestTests {
     }
 
     private static void backRefusesAfterADepth() {
-        CellCurrents sea = moving();
+        Sea sea = moving();
         sea.save();
         Check.no("21 a depth that is refused", sea.depth(0, 0, -1.0));
         Check.no("21 a place that is refused", sea.depth(3, 0, 1.0));
@@ -231,14 +230,14 @@ public final class NestTests {
         Check.yes("21 but the later one", sea.back(1));
         Check.yes("21 as it was", picture(sea).equals(now));
 
-        CellCurrents land = new CellCurrents(1, 1, 1);
+        Sea land = new Sea(1, 1, 1);
         land.save();
         land.depth(0, 0, 0.0);
         Check.no("21 land told as land", land.back(0));
     }
 
     private static void backRefusesAfterANest() {
-        CellCurrents sea = moving();
+        Sea sea = moving();
         sea.save();
         Check.same("21 a nest that is refused", sea.nest(0, 0, 1), NONE);
         Check.yes("21 does not count", sea.back(0));
@@ -251,7 +250,7 @@ public final class NestTests {
     }
 
     private static void backLeavesWhatStepsDoNotChange() {
-        CellCurrents sea = sea(2, 1);
+        Sea sea = sea(2, 1);
         sea.save();
         sea.river(1, 0, 3.0);
         sea.wind(0, 100.0, 0.0);

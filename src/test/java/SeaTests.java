@@ -23,7 +23,7 @@ public final class SeaTests {
     }
 
     private static void aNewObjectIsAllLand() {
-        CellCurrents sea = new CellCurrents(3, 2, 2);
+        Sea sea = new Sea(3, 2, 2);
         for (int i = 0; i < 3; i++) {
             for (int j = 0; j < 2; j++) {
                 Check.same("1 level of land", sea.level(i, j), NOWHERE);
@@ -47,7 +47,7 @@ public final class SeaTests {
     }
 
     private static void sizes(int x, int y, int layers, int dueX, int dueY, int dueLayers) {
-        CellCurrents sea = new CellCurrents(x, y, layers);
+        Sea sea = new Sea(x, y, layers);
         String name = "1 of " + x + ", " + y + ", " + layers + ": ";
         Check.yes(name + "last cell", sea.depth(dueX - 1, dueY - 1, 2.0));
         Check.yes(name + "first cell", sea.depth(0, 0, 2.0));
@@ -58,7 +58,7 @@ public final class SeaTests {
     }
 
     private static void depthMakesWater() {
-        CellCurrents sea = new CellCurrents(2, 2, 1);
+        Sea sea = new Sea(2, 2, 1);
         Check.yes("2 depth", sea.depth(1, 0, 12.3456));
         Check.same("2 volume is cut", sea.volume(0), 12345);
         Check.same("2 level", sea.level(1, 0), 12345 * 0.001 - 12.3456);
@@ -75,7 +75,7 @@ public final class SeaTests {
     }
 
     private static void depthZeroMakesLand() {
-        CellCurrents sea = new CellCurrents(2, 1, 1);
+        Sea sea = new Sea(2, 1, 1);
         sea.depth(0, 0, 5.0);
         sea.depth(1, 0, 3.0);
         Check.yes("2 land", sea.depth(0, 0, 0.0));
@@ -88,7 +88,7 @@ public final class SeaTests {
     }
 
     private static void depthTellsACellAnew() {
-        CellCurrents sea = movedSea();
+        Sea sea = movedSea();
         Check.yes("2 mud was there", sea.mud(0, 0) > 0.0);
         Check.yes("2 warmth was other", sea.warm(0, 0, 0) != 10.0);
         int nest = sea.nest(0, 0, 2);
@@ -103,7 +103,7 @@ public final class SeaTests {
     }
 
     private static void depthRefuses() {
-        CellCurrents sea = new CellCurrents(2, 2, 1);
+        Sea sea = new Sea(2, 2, 1);
         sea.depth(0, 0, 5.0);
         double[] wrong = {-0.001, 1000.001, Double.NaN, Double.POSITIVE_INFINITY,
             Double.NEGATIVE_INFINITY, -Double.MIN_VALUE, Double.MAX_VALUE};
@@ -120,7 +120,7 @@ public final class SeaTests {
     }
 
     private static void depthStillsTheFacesOfItsCellAlone() {
-        CellCurrents sea = movedSea();
+        Sea sea = movedSea();
         double other = sea.speed(1, 1, 0, 0);
         Check.yes("2 speeds are there", sea.speed(0, 0, 0, 0) != 0.0 && sea.speed(1, 0, 0, 0) != 0.0
             && sea.speed(1, 0, 0, 1) != 0.0 && other != 0.0);
@@ -134,8 +134,8 @@ public final class SeaTests {
     }
 
     /** Three by two cells of ten metres, all faces moving, the side 1 open. */
-    private static CellCurrents movedSea() {
-        CellCurrents sea = new CellCurrents(3, 2, 1);
+    private static Sea movedSea() {
+        Sea sea = new Sea(3, 2, 1);
         for (int i = 0; i < 3; i++) {
             for (int j = 0; j < 2; j++) {
                 sea.depth(i, j, 10.0);
@@ -149,7 +149,7 @@ public final class SeaTests {
     }
 
     private static void borderRefusesAndOpens() {
-        CellCurrents sea = new CellCurrents(1, 1, 1);
+        Sea sea = new Sea(1, 1, 1);
         sea.depth(0, 0, 10.0);
         double[] sizes = {-0.001, 20.001, Double.NaN, Double.POSITIVE_INFINITY};
         for (double size : sizes) {
@@ -193,7 +193,7 @@ public final class SeaTests {
 
     /** Only the face behind a cell can be read: the sides 0 and 2 show in what came over them. */
     private static void wavesTurnInTheirHours() {
-        CellCurrents sea = new CellCurrents(1, 1, 1);
+        Sea sea = new Sea(1, 1, 1);
         sea.run(2, 450.0);
         sea.depth(0, 0, 10.0);
         sea.border(0, 0, 2.0, 0.5);
@@ -202,20 +202,14 @@ public final class SeaTests {
         sea.run(1, 60.0);
         double outside0 = 0.0 + 2.0 * (4 * 0.75 - 3) + 1.0 * (1 - 4 * 0.375);
         double outside2 = 0.0 + 3.0 * (1 - 4 * (900.0 / 10800));
-        Check.same("3 came in over side 0", sea.through(0, 1) << 32 | sea.through(0, 0),
-            firstFlow(outside0, 60.0, 10000));
-        Check.same("3 came in over side 2", sea.through(2, 1) << 32 | sea.through(2, 0),
-            firstFlow(outside2, 60.0, 10000));
-    }
-
-    /** What a first step of h brings in over side 0 or 2 to a cell that is at level 0.0. */
-    private static long firstFlow(double outside, double h, long volume) {
-        double s = (0.0 + h * (0.00981 * outside + 0.00001 * 0.0)) / (1 + 0.002 * h * 0.0);
-        return (long) (s * h * (volume * 0.001));
+        Check.same("3 came in over side 0", sea.through(0),
+            Lines.asked(Lines.speed(0.0, 60.0, outside0, 0.0), 60.0, 10000));
+        Check.same("3 came in over side 2", sea.through(2),
+            Lines.asked(Lines.speed(0.0, 60.0, outside2, 0.0), 60.0, 10000));
     }
 
     private static void outside(String name, double[][] waves, double due) {
-        CellCurrents sea = new CellCurrents(1, 1, 1);
+        Sea sea = new Sea(1, 1, 1);
         sea.depth(0, 0, 10.0);
         for (double[] wave : waves) {
             Check.yes("3 " + name, sea.border(1, (int) wave[0], wave[1], wave[2]));
@@ -225,7 +219,7 @@ public final class SeaTests {
     }
 
     private static void windBlowsInItsHour() {
-        CellCurrents sea = new CellCurrents(2, 2, 1);
+        Sea sea = new Sea(2, 2, 1);
         for (int k = 0; k < 4; k++) {
             sea.depth(k % 2, k / 2, 10.0);
         }
@@ -252,7 +246,7 @@ public final class SeaTests {
 
     /** The wind along axis 0 of a step from that second on, read from the speed that it makes. */
     private static void windAt(int second, double due) {
-        CellCurrents sea = new CellCurrents(2, 1, 1);
+        Sea sea = new Sea(2, 1, 1);
         sea.wind(0, 10.0, 0.0);
         sea.wind(1, 20.0, 0.0);
         sea.wind(23, 30.0, 0.0);
@@ -267,7 +261,7 @@ public final class SeaTests {
     }
 
     private static void windRefuses() {
-        CellCurrents sea = new CellCurrents(2, 1, 1);
+        Sea sea = new Sea(2, 1, 1);
         sea.depth(0, 0, 10.0);
         sea.depth(1, 0, 10.0);
         Check.yes("4 wind", sea.wind(0, 5.0, 5.0));
@@ -286,7 +280,7 @@ public final class SeaTests {
     }
 
     private static void riverBringsParts() {
-        CellCurrents sea = new CellCurrents(2, 2, 1);
+        Sea sea = new Sea(2, 2, 1);
         sea.depth(1, 0, 10.0);
         sea.depth(0, 1, 10.0);
         Check.yes("5 river", sea.river(1, 0, 2.75));
@@ -305,7 +299,7 @@ public final class SeaTests {
     }
 
     private static void riverRefuses() {
-        CellCurrents sea = new CellCurrents(2, 2, 1);
+        Sea sea = new Sea(2, 2, 1);
         sea.depth(0, 0, 10.0);
         Check.yes("5 river", sea.river(0, 0, 1.0));
         Check.no("5 on land", sea.river(1, 0, 1.0));
@@ -323,7 +317,7 @@ public final class SeaTests {
     }
 
     private static void riverOutlivesDepth() {
-        CellCurrents sea = new CellCurrents(1, 1, 1);
+        Sea sea = new Sea(1, 1, 1);
         sea.depth(0, 0, 10.0);
         sea.river(0, 0, 3.0);
         sea.depth(0, 0, 0.0);
@@ -336,7 +330,7 @@ public final class SeaTests {
     }
 
     private static void levelIsVolumeLessDepth() {
-        CellCurrents sea = new CellCurrents(2, 1, 1);
+        Sea sea = new Sea(2, 1, 1);
         sea.depth(0, 0, 0.1);
         sea.river(0, 0, 7.0);
         sea.run(3, 1.0);
@@ -350,7 +344,7 @@ public final class SeaTests {
     }
 
     private static void dryBelowFifty() {
-        CellCurrents sea = new CellCurrents(3, 1, 1);
+        Sea sea = new Sea(3, 1, 1);
         sea.depth(0, 0, 0.0495);
         sea.depth(1, 0, 0.0505);
         Check.yes("14 of 49 parts", sea.dry(0, 0));

@@ -22,17 +22,12 @@ public final class TideTests {
         Check.end();
     }
 
-    private static double saw(double u) {
-        double f = u - Math.floor(u);
-        return f < 0.5 ? 1 - 4 * f : 4 * f - 3;
-    }
-
     private static boolean near(double got, double due) {
         return Math.abs(got - due) < 1.0e-9;
     }
 
     private static void nothingBeforeAFit() {
-        CellCurrents sea = new CellCurrents(1, 1, 1);
+        Sea sea = new Sea(1, 1, 1);
         Check.same("19 nothing", sea.tide(1.0), 0.0);
         sea.gauge(0, 0, 1.0, 3.0);
         Check.same("19 told, not fitted", sea.tide(1.0), 0.0);
@@ -40,14 +35,14 @@ public final class TideTests {
 
     private static void fitOfNothing() {
         for (int waves = 0; waves <= 2; waves++) {
-            CellCurrents sea = new CellCurrents(1, 1, 1);
+            Sea sea = new Sea(1, 1, 1);
             Check.same("17 no pivots", sea.fit(waves), 0);
             Check.same("19 numbers of 0", sea.tide(0.5), 0.0);
         }
     }
 
     private static void meanOfLevels() {
-        CellCurrents sea = new CellCurrents(2, 2, 1);
+        Sea sea = new Sea(2, 2, 1);
         double[] levels = {0.1, 0.7, -2.3, 100.0, -100.0};
         double sum = 0.0;
         for (int k = 0; k < levels.length; k++) {
@@ -59,21 +54,21 @@ public final class TideTests {
     }
 
     private static void oneWave() {
-        CellCurrents sea = new CellCurrents(1, 1, 1);
+        Sea sea = new Sea(1, 1, 1);
         for (int k = 0; k < 12; k++) {
             double t = 0.15 * k * 3600;
-            sea.gauge(0, 0, 0.15 * k, 0.5 + 2.0 * saw(t / 3600) - 1.5 * saw(t / 3600 + 0.25));
+            sea.gauge(0, 0, 0.15 * k, 0.5 + 2.0 * Lines.saw(t / 3600) - 1.5 * Lines.saw(t / 3600 + 0.25));
         }
         Check.same("17 three pivots", sea.fit(1), 3);
         for (int k = 0; k < 30; k++) {
             double t = 0.27 * k * 3600;
-            double due = 0.5 + 2.0 * saw(t / 3600) - 1.5 * saw(t / 3600 + 0.25);
+            double due = 0.5 + 2.0 * Lines.saw(t / 3600) - 1.5 * Lines.saw(t / 3600 + 0.25);
             Check.yes("19 hour " + 0.27 * k, near(sea.tide(0.27 * k), due));
         }
     }
 
     private static void twoWaves() {
-        CellCurrents sea = new CellCurrents(1, 1, 1);
+        Sea sea = new Sea(1, 1, 1);
         for (int k = 0; k < 40; k++) {
             sea.gauge(0, 0, 0.13 * k, twoWavesAt(0.13 * k));
         }
@@ -85,12 +80,12 @@ public final class TideTests {
 
     private static double twoWavesAt(double hour) {
         double t = hour * 3600;
-        return -1.0 + 2.0 * saw(t / 3600) + 0.25 * saw(t / 3600 + 0.25) - 3.0 * saw(t / 7200)
-            + 0.75 * saw(t / 7200 + 0.25);
+        return -1.0 + 2.0 * Lines.saw(t / 3600) + 0.25 * Lines.saw(t / 3600 + 0.25) - 3.0 * Lines.saw(t / 7200)
+            + 0.75 * Lines.saw(t / 7200 + 0.25);
     }
 
     private static void columnsWithoutPivot() {
-        CellCurrents sea = new CellCurrents(1, 1, 1);
+        Sea sea = new Sea(1, 1, 1);
         sea.gauge(0, 0, 2.0, 4.0);
         Check.same("17 one hour alone", sea.fit(2), 1);
         Check.same("19 the others are 0", sea.tide(2.5), 4.0);
@@ -106,7 +101,7 @@ public final class TideTests {
     private static void pivotsAreAboveTheirLeast() {
         double[] apart = {1.0e-5, 1.3e-5};
         for (int k = 0; k < 2; k++) {
-            CellCurrents sea = new CellCurrents(1, 1, 1);
+            Sea sea = new Sea(1, 1, 1);
             sea.gauge(0, 0, 0.0, 1.0);
             sea.gauge(0, 0, apart[k], 2.0);
             Check.same("17 apart by " + apart[k], sea.fit(1), 1 + k);
@@ -114,7 +109,7 @@ public final class TideTests {
     }
 
     private static void fitRefuses() {
-        CellCurrents sea = new CellCurrents(1, 1, 1);
+        Sea sea = new Sea(1, 1, 1);
         sea.gauge(0, 0, 1.0, 3.0);
         sea.fit(0);
         sea.gauge(0, 0, 1.0, 5.0);
@@ -126,7 +121,7 @@ public final class TideTests {
     }
 
     private static void tideIsOfTheLatestFit() {
-        CellCurrents sea = new CellCurrents(1, 1, 1);
+        Sea sea = new Sea(1, 1, 1);
         sea.gauge(0, 0, 0.0, 3.0);
         sea.gauge(0, 0, 0.5, 1.0);
         sea.fit(1);
@@ -139,7 +134,7 @@ public final class TideTests {
     }
 
     private static void tideRefuses() {
-        CellCurrents sea = new CellCurrents(1, 1, 1);
+        Sea sea = new Sea(1, 1, 1);
         sea.gauge(0, 0, 1.0, 3.0);
         sea.fit(0);
         Check.same("19 hour 0", sea.tide(0.0), 3.0);
@@ -153,7 +148,7 @@ public final class TideTests {
     }
 
     private static void gaugeRefuses() {
-        CellCurrents sea = new CellCurrents(2, 1, 1);
+        Sea sea = new Sea(2, 1, 1);
         Check.yes("18 on land", sea.gauge(1, 0, 0.0, 1.0));
         for (int none : NO_PLACES) {
             Check.no("18 i " + none, sea.gauge(none, 0, 1.0, 5.0));
@@ -174,7 +169,7 @@ public final class TideTests {
     }
 
     private static void fortyGauges() {
-        CellCurrents sea = new CellCurrents(3, 1, 1);
+        Sea sea = new Sea(3, 1, 1);
         sea.depth(0, 0, 10.0);
         for (int k = 0; k < 40; k++) {
             Check.yes("18 gauge " + k, sea.gauge(k % 3, 0, k, k < 20 ? 1.0 : 2.0));
@@ -187,7 +182,7 @@ public final class TideTests {
     }
 
     private static void differsFromTheLevelNow() {
-        CellCurrents sea = new CellCurrents(2, 1, 1);
+        Sea sea = new Sea(2, 1, 1);
         sea.depth(0, 0, 10.0);
         sea.depth(1, 0, 10.0);
         Check.yes("24 told", sea.gauge(0, 0, 9.0, 0.75));
@@ -207,7 +202,7 @@ public final class TideTests {
     }
 
     private static void differsOfNone() {
-        CellCurrents sea = new CellCurrents(2, 1, 1);
+        Sea sea = new Sea(2, 1, 1);
         sea.depth(0, 0, 3.3333);
         Check.same("24 none told", sea.differs(0, 0), 0.0);
         sea.gauge(1, 0, 0.0, 7.0);
@@ -224,13 +219,13 @@ public final class TideTests {
     private static void eliminationByHand() {
         double[] hours = {0.1, 0.7, 1.3, 2.9, 3.1};
         double[] levels = {0.3, -0.9, 1.7, 2.2, -3.1};
-        CellCurrents sea = new CellCurrents(1, 1, 1);
+        Sea sea = new Sea(1, 1, 1);
         double[][] a = new double[3][3];
         double[] b = new double[3];
         for (int k = 0; k < hours.length; k++) {
             sea.gauge(0, 0, hours[k], levels[k]);
             double t = hours[k] * 3600;
-            double[] f = {1.0, saw(t / 3600), saw(t / 3600 + 0.25)};
+            double[] f = {1.0, Lines.saw(t / 3600), Lines.saw(t / 3600 + 0.25)};
             for (int r = 0; r < 3; r++) {
                 b[r] = b[r] + f[r] * levels[k];
                 for (int c = 0; c < 3; c++) {
@@ -257,7 +252,7 @@ public final class TideTests {
         for (double hour : asked) {
             double t = hour * 3600;
             Check.same("19 hour " + hour, sea.tide(hour),
-                c0 + a0 * saw(t / 3600) + b0 * saw(t / 3600 + 0.25));
+                c0 + a0 * Lines.saw(t / 3600) + b0 * Lines.saw(t / 3600 + 0.25));
         }
     }
 }
