@@ -16,6 +16,7 @@ public final class StepEdgeTests {
         anEighthOverSides();
         anEighthOfTheBeginning();
         aDryCellGivesNothing();
+        aSinglePartHasItsGiver();
         aDryCellGivesNothingOverSides();
         aDryCellTakes();
         theOutsideIsNoCell();
@@ -200,6 +201,17 @@ public final class StepEdgeTests {
         }
         Check.same("Terms, dry: both", moved(49, 49, 100.0), 0);
         Check.same("Terms, dry: both, back", moved(49, 49, -100.0), 0);
+    }
+
+    /** Terms: "(behind it, when below 0)": from the first part on, the dry one being the other. */
+    private static void aSinglePartHasItsGiver() {
+        for (int parts = -2; parts <= 2; parts++) {
+            double wind = (parts + 0.5 * Integer.signum(parts)) / 0.1764;
+            Check.same("Terms, behind: asked of 20000", asked(49, 20000, wind), parts);
+            Check.same("Terms, behind: asked of 49", asked(20000, 49, wind), parts);
+            Check.same("Terms, behind: a dry one before, " + parts, moved(49, 20000, wind), Math.min(parts, 0));
+            Check.same("Terms, behind: a dry one behind, " + parts, moved(20000, 49, wind), Math.max(parts, 0));
+        }
     }
 
     /** Terms: 0 when that one is dry: towards what is outside, too. */
@@ -418,7 +430,7 @@ public final class StepEdgeTests {
 
     /** Terms: "g being the greatest size of the speeds of its faces": any face, first or last. */
     private static void mudOfTheGreatestSize() {
-        double[] phases = {0.25, 0.25, 0.25, 0.25};
+        double[] phases = {0.0, 0.5, 0.0, 0.5};
         for (int fast = 0; fast < 4; fast++) {
             for (int up = 0; up < 2; up++) {
                 Sea sea = Sea.row(10.0);

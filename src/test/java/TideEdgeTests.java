@@ -87,31 +87,34 @@ public final class TideEdgeTests {
         }
     }
 
-    /** Promise 17: "if the size of A at it (its own row) is above 1.0e-9, it is a PIVOT". */
+    /** Promise 17: "if the size of A at it (its own row) is above 1.0e-9": below it, at it, above. */
     private static void pivotsAboveTheirLeast() {
-        double low = 1.0e-5;
-        double high = 1.3e-5;
-        Check.yes("17 a pivot too small", secondPivot(low) <= 1.0e-9);
-        Check.yes("17 a pivot great enough", secondPivot(high) > 1.0e-9);
-        for (int n = 0; n < 100 && Math.nextUp(low) < high; n++) {
-            double middle = (low + high) / 2;
-            if (secondPivot(middle) > 1.0e-9) {
-                high = middle;
-            } else {
-                low = middle;
-            }
+        // Near these hours the first saw is next to 0, the second one is not: it has its pivot.
+        double other = 0.750000093207;
+        double least = 0.2500096355183925;
+        Check.yes("17 A below", secondPivot(0.25, other, Math.nextDown(least)) < 1.0e-9);
+        Check.same("17 A at its least", secondPivot(0.25, other, least), 1.0e-9);
+        Check.yes("17 A above", secondPivot(0.25, other, Math.nextUp(least)) > 1.0e-9);
+        double[] hours = {Math.nextDown(least), least, Math.nextUp(least)};
+        int[] pivots = {2, 2, 3};
+        for (int k = 0; k < 3; k++) {
+            Sea sea = told(0.25, 1.0, other, 2.0, hours[k], 4.0);
+            Check.same("17 pivots at " + hours[k], sea.fit(1), pivots[k]);
+            // Without a0 the tide stays among the levels; such a small pivot makes a great one.
+            Check.same("19 a0 at " + hours[k], sea.tide(0.3) > 100.0 ? 1 : 0, k == 2 ? 1 : 0);
         }
-        Check.yes("17 next to each other", secondPivot(high) - secondPivot(low) < 1.0e-14);
-        Check.same("17 not above: " + secondPivot(low), told(0.0, 1.0, low, 2.0).fit(1), 1);
-        Check.same("17 above: " + secondPivot(high), told(0.0, 1.0, high, 2.0).fit(1), 2);
     }
 
-    /** What A has in row and column 1 below the first pivot, for levels at hour 0 and that one. */
-    private static double secondPivot(double hour) {
-        double g = Lines.saw(hour * 3600 / 3600);
-        double a01 = 0.0 + 1.0 * 1.0 + 1.0 * g;
-        double a11 = 0.0 + 1.0 * 1.0 + g * g;
-        return a11 - a01 / 2.0 * a01;
+    /** What A has in row and column 1 below the first pivot, for levels at these hours. */
+    private static double secondPivot(double... hours) {
+        double[] a = {0.0, 0.0, 0.0};
+        for (double hour : hours) {
+            double g = Lines.saw(hour * 3600 / 3600);
+            a[0] = a[0] + 1.0;
+            a[1] = a[1] + 1.0 * g;
+            a[2] = a[2] + g * g;
+        }
+        return a[2] - a[1] / a[0] * a[1];
     }
 
     /** Promise 17: "its number is 0 without pivot": the others share what is there. */
