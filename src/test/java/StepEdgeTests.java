@@ -24,6 +24,7 @@ public final class StepEdgeTests {
         heatGoesFaceByFace();
         heatGoesOverSidesInTheirOrder();
         sidesComeAfterOtherFaces();
+        saltGoesLikewise();
         theOutsideHasItsWarmthAndSalt();
         warmthStaysWithoutVolume();
         mudAboveItsSpeed();
@@ -379,6 +380,32 @@ public final class StepEdgeTests {
             others[1] += due != heat(10.0, 100, in[0], in[2], in[1]) ? 1 : 0;
         }
         Check.yes("Terms, H: other orders would show", others[0] > 0 && others[1] > 0);
+    }
+
+    /** Terms: "salt likewise, with 0.0 for rivers": some comes fresh, some goes, a river brings none. */
+    private static void saltGoesLikewise() {
+        for (int n = 1; n < 20; n++) {
+            Sea sea = Sea.row(10.0, 0.0, 10.0);
+            sea.river(0, 0, n);
+            sea.run(1, 60.0);
+            sea.river(0, 0, 0.0);
+            long fresh = 10000 + 60L * n;
+            double salt = (35.0 * 10000 + 60 * n * 0.0) / fresh;
+            sea.depth(1, 0, 10.0);
+            sea.river(1, 0, 0.1 * n);
+            sea.wind(0, 80.0, 0.0);
+            sea.run(1, 60.0);
+            double d = Lines.level(fresh, 10.0) - 0.0;
+            long in = Lines.asked(Lines.speed(0.0, 60.0, d, 80.0), 60.0, 10000);
+            long out = Lines.asked(Lines.speed(0.0, 60.0, 0.0, 80.0), 60.0, 10000);
+            Check.yes("Terms, salt: less than an eighth comes, some goes", in < fresh / 8 && out > 0);
+            long river = (long) (0.1 * n * 60.0);
+            double first = 35.0 * 10000;
+            Check.same("Terms, salt: of the giver", sea.salt(0, 0, 0), (salt * fresh - in * salt) / (fresh - in));
+            Check.same("Terms, salt: of the one between", sea.salt(1, 0, 0),
+                (first + in * salt - out * 35.0 + river * 0.0) / (10000 + in - out + river));
+            Check.same("Terms, salt: of the last", sea.salt(2, 0, 0), (first + out * 35.0) / (10000 + out));
+        }
     }
 
     /** Terms: "WARMTH and SALT that the cell it leaves (outside: 8.0, 34.0) had at the beginning". */

@@ -10,6 +10,7 @@ public final class TideEdgeTests {
         pivotsAboveTheirLeast();
         numbersWithoutPivotAreZero();
         rowsBelowAPivotAlone();
+        numbersComeFromTheLastColumnOn();
         aRefusedFitLeavesTheLatest();
         gaugesOfNoCell();
         gaugesOfLand();
@@ -144,9 +145,7 @@ public final class TideEdgeTests {
         double[] b = new double[5];
         for (int g = 0; g < 5; g++) {
             sea.gauge(0, 0, hours[g], levels[g]);
-            double t = hours[g] * 3600;
-            double[] f = {1.0, Lines.saw(t / 3600), Lines.saw(t / 3600 + 0.25), Lines.saw(t / 7200),
-                Lines.saw(t / 7200 + 0.25)};
+            double[] f = saws(hours[g]);
             for (int r = 0; r < 5; r++) {
                 b[r] = b[r] + f[r] * levels[g];
                 for (int c = 0; c < 5; c++) {
@@ -163,6 +162,84 @@ public final class TideEdgeTests {
         Check.same("19 at an even hour", sea.tide(6.0), c0 + a1);
         Check.same("19 at an odd hour", sea.tide(7.0), c0 - a1);
         Check.same("19 at half of an hour", sea.tide(0.5), c0 + a1 * 0.0);
+    }
+
+    /** Promise 17: "from the last column to the first one: .. one by one, the next one first". */
+    private static void numbersComeFromTheLastColumnOn() {
+        int others = 0;
+        for (int n = 0; n < 20; n++) {
+            int waves = n % 3;
+            Sea sea = new Sea(1, 1, 1);
+            double[] hours = new double[8];
+            double[] levels = new double[8];
+            for (int g = 0; g < 8; g++) {
+                hours[g] = 0.13 * n + 1.37 * g + 0.11 * g * g;
+                levels[g] = 3.0 - 0.7 * n + (g * g * 7 + n) % 11;
+                sea.gauge(0, 0, hours[g], levels[g]);
+            }
+            double[][] a = cleared(1 + 2 * waves, hours, levels);
+            Check.same("17 all columns of " + n, sea.fit(waves), 1 + 2 * waves);
+            double[] numbers = numbers(a, true);
+            double[] other = numbers(a, false);
+            for (int k = 0; k < 9; k++) {
+                double hour = 0.3 + 0.41 * k;
+                Check.same("19 sum of fit " + n + " at " + hour, sea.tide(hour), sum(numbers, hour));
+                others += sum(numbers, hour) != sum(other, hour) ? 1 : 0;
+            }
+        }
+        Check.yes("17 another order would show", others > 5);
+    }
+
+    private static double[] saws(double hour) {
+        double t = hour * 3600;
+        return new double[] {1.0, Lines.saw(t / 3600), Lines.saw(t / 3600 + 0.25), Lines.saw(t / 7200),
+            Lines.saw(t / 7200 + 0.25)};
+    }
+
+    /** A with B behind it, of so many columns, after each of them was a pivot. */
+    private static double[][] cleared(int n, double[] hours, double[] levels) {
+        double[][] a = new double[n][n + 1];
+        for (int g = 0; g < hours.length; g++) {
+            double[] f = saws(hours[g]);
+            for (int r = 0; r < n; r++) {
+                for (int c = 0; c < n; c++) {
+                    a[r][c] = a[r][c] + f[r] * f[c];
+                }
+                a[r][n] = a[r][n] + f[r] * levels[g];
+            }
+        }
+        for (int c = 0; c < n; c++) {
+            for (int r = c + 1; r < n; r++) {
+                double times = a[r][c] / a[c][c];
+                for (int k = c; k <= n; k++) {
+                    a[r][k] = a[r][k] - times * a[c][k];
+                }
+            }
+        }
+        return a;
+    }
+
+    private static double[] numbers(double[][] a, boolean nextFirst) {
+        int n = a.length;
+        double[] all = new double[n];
+        for (int c = n - 1; c >= 0; c--) {
+            double rest = a[c][n];
+            for (int k = c + 1; k < n; k++) {
+                int behind = nextFirst ? k : n + c - k;
+                rest = rest - a[c][behind] * all[behind];
+            }
+            all[c] = rest / a[c][c];
+        }
+        return all;
+    }
+
+    private static double sum(double[] numbers, double hour) {
+        double[] f = saws(hour);
+        double sum = numbers[0];
+        for (int k = 1; k < numbers.length; k++) {
+            sum = sum + numbers[k] * f[k];
+        }
+        return sum;
     }
 
     /** Promise 17: NONE; Terms: "What is refused changes nothing": the latest fit stays. */
