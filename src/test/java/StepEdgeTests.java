@@ -572,5 +572,20 @@ public final class StepEdgeTests {
             sea.tide(1001.0);
             return true;
         });
+        Twins.unchanged("Terms, checks: reading what is none", sea -> {
+            for (int none = -1; none <= 10; none += 11) {
+                sea.mud(none, 0);
+                sea.mud(0, none);
+                sea.speed(none, 0, 0, 0);
+                sea.speed(0, none, 0, 0);
+                sea.speed(0, 0, none, 0);
+                sea.speed(0, 0, 0, none);
+                sea.volume(none);
+                sea.through(none, 0);
+                sea.through(0, none);
+                sea.equal(none);
+            }
+            return sea.kept();
+        });
     }
 }
