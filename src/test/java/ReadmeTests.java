@@ -10,6 +10,7 @@ public final class ReadmeTests {
         refusedWhenReadingLand();
         refusedWhenNumbersAreNone();
         refusedWithoutRoom();
+        depthLeavesRiverAndGauge();
         landIsTakenByDepthAndGauge();
         Check.end();
     }
@@ -124,7 +125,9 @@ public final class ReadmeTests {
         CellCurrents sea = halfLand();
         for (int n = 0; n < 10; n++) {
             Check.same("nest", sea.nest(0, 0, 2), n);
+            Check.yes("equal", sea.equal(n));
             Check.yes("depth", sea.depth(0, 0, 1.0));
+            Check.no("equal of an empty nest", sea.equal(n));
         }
         Check.same("an eleventh nest", sea.nest(0, 0, 2), CellCurrents.NONE);
         for (int n = 0; n < 4; n++) {
@@ -138,6 +141,16 @@ public final class ReadmeTests {
         Check.no("a gauge more than forty", sea.gauge(0, 0, 40.0, 0.5));
         Check.yes("a depth after the states", sea.depth(0, 0, 1.0));
         Check.no("back past a depth", sea.back(3));
+    }
+
+    private static void depthLeavesRiverAndGauge() {
+        CellCurrents sea = halfLand();
+        Check.yes("a river", sea.river(0, 0, 10.0));
+        Check.yes("a gauge", sea.gauge(0, 0, 1.0, 0.5));
+        Check.yes("a depth told anew", sea.depth(0, 0, 3.0));
+        Check.same("what its gauge told stays", sea.differs(0, 0), 0.5);
+        Check.same("a step", sea.run(1, 2.0), 1);
+        Check.same("its river stays", sea.volume(0), 3020);
     }
 
     private static void landIsTakenByDepthAndGauge() {
